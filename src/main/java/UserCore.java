@@ -462,7 +462,8 @@ public final class UserCore {
     }
 
     private static int branchImmediate(int w) {
-        return ((w >> 31) << 12) | (((w >>> 7) & 1) << 11) | (((w >>> 25) & 63) << 5) | (((w >>> 8) & 15) << 1);
+        return ((w >> 31) << 12) | (((w >>> 7) & 1) << 11)
+            | (((w >>> 25) & 63) << 5) | (((w >>> 8) & 15) << 1);
     }
 
     private static int upperImmediate(int w) {
@@ -470,6 +471,7 @@ public final class UserCore {
     }
 
     private static int jumpImmediate(int w) {
-        return ((w >> 31) << 20) | (((w >>> 12) & 255) << 12) | (((w >>> 20) & 1) << 11) | (((w >>> 21) & 1023) << 1);
+        return ((w >> 31) << 20) | (((w >>> 12) & 255) << 12)
+            | (((w >>> 20) & 1) << 11) | (((w >>> 21) & 1023) << 1);
     }
 }

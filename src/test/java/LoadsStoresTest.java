@@ -32,6 +32,10 @@ final class LoadsStoresTest {
             load(5, BASE + at, 2, (int) pairs[at / 2] & 65535);
             load(2, BASE + at, 4, at < 4 ? 0xF5061728 : 0x7182F394);
         }
+        UserCore odd = core(Words.i(3, 5, 3, 1, 0), BASE);
+        odd.poke(BASE, 4, -1L);
+        odd.run(1);
+        CHECK.due("two bytes of ones without sign", odd.register(3), 65535);
     }
 
     private static void load(int f, int address, int n, int want) {

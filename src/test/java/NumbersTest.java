@@ -141,7 +141,7 @@ final class NumbersTest {
         for (int f = 1; f < 8; f++) {
             unknown(Words.i(15, f, 0, 0, 0));
         }
-        CHECK.ran("op 15", Words.coreAt(0, Words.i(15, 0, 0, 0, 0)), 1, Check.is(1, -1, 0, 4));
+        CHECK.ran("op 15", Words.coreAt(64, Words.i(15, 0, 0, 0, 0)), 1, Check.is(1, -1, 0, 68));
         UserCore full = Words.coreAt(0, Words.i(15, 0, 31, 31, -1));
         CHECK.ran("op 15 with other parts", full, 1, Check.is(1, -1, 0, 4));
         CHECK.due("op 15 writes none", full.register(31), 0);
