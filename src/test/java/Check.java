@@ -2,12 +2,22 @@
 final class Check {
     private int wrong = 0;
     private int asked = 0;
+    private String sentence = "";
+
+    /** The test of one sentence of the document; what is wrong in it is told with the sentence. */
+    void sentence(String words, Runnable test) {
+        int before = asked;
+        sentence = "'" + words + "': ";
+        test.run();
+        due("asks something", asked > before, true);
+        sentence = "";
+    }
 
     void due(String call, long got, long want) {
         asked++;
         if (got != want) {
             wrong++;
-            System.out.println(call + " answered " + got + ", due is " + want);
+            System.out.println(sentence + call + " answered " + got + ", due is " + want);
         }
     }
 
@@ -32,6 +42,28 @@ final class Check {
         due(what + ": trap()", core.trap(), stepsTrapValuePc[1]);
         due(what + ": value()", core.value(), stepsTrapValuePc[2]);
         due(what + ": pc()", core.pc(), stepsTrapValuePc[3]);
+    }
+
+    /** All that calls can tell of a core but its rights, with the memory at both ends of each page. */
+    static int[] stateOf(UserCore core) {
+        int[] state = new int[36 + 4 * 32];
+        int[] told = {core.pc(), core.trap(), core.value(), core.done()};
+        System.arraycopy(told, 0, state, 0, 4);
+        for (int k = 0; k < 32; k++) {
+            state[4 + k] = core.register(k);
+        }
+        for (int k = 0; k < 128; k++) {
+            state[36 + k] = core.peek(k / 32 * 4096 + (k % 32 < 16 ? k % 32 : 4064 + k % 32));
+        }
+        return state;
+    }
+
+    /** That nothing has changed since stateOf gave a state, but for parts that the test asks itself. */
+    void sameState(String what, UserCore core, int[] state, int firstPart) {
+        int[] now = stateOf(core);
+        for (int k = firstPart; k < state.length; k++) {
+            due(what + ": part " + k + " of the state", now[k], state[k]);
+        }
     }
 
     static int[] is(int steps, int trap, int value, int pc) {
