@@ -8,7 +8,12 @@ final class Check {
     void sentence(String words, Runnable test) {
         int before = asked;
         sentence = "'" + words + "': ";
-        test.run();
+        try {
+            test.run();
+        } catch (RuntimeException e) {
+            // Told as a wrong answer, so that the sentences behind this one are tested too.
+            due("throws " + e + ", that it", true, false);
+        }
         due("asks something", asked > before, true);
         sentence = "";
     }

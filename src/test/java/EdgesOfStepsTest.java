@@ -199,7 +199,8 @@ final class EdgesOfStepsTest {
         for (int[] pair : pairs) {
             int p = pair[0];
             int q = pair[1];
-            boolean[] goes = {p == q, p != q, false, false, p < q, p >= q, p + LEAST < q + LEAST, p + LEAST >= q + LEAST};
+            boolean below = p + LEAST < q + LEAST;
+            boolean[] goes = {p == q, p != q, false, false, p < q, p >= q, below, !below};
             for (int f = 0; f < 8; f++) {
                 if (f != 2 && f != 3) {
                     goesTo(Words.b(f, 1, 2, 64), p, q, goes[f] ? 64 : 4);
@@ -447,7 +448,8 @@ final class EdgesOfStepsTest {
     }
 
     private static void otherFs() {
-        int[][] rows = {{103, 1, 2, 3, 4, 5, 6, 7}, {99, 2, 3}, {3, 3, 6, 7}, {35, 3, 4, 5, 6, 7}, {15, 1, 2, 3, 4, 5, 6, 7}};
+        int[][] rows = {{103, 1, 2, 3, 4, 5, 6, 7}, {99, 2, 3}, {3, 3, 6, 7}, {35, 3, 4, 5, 6, 7},
+            {15, 1, 2, 3, 4, 5, 6, 7}};
         for (int[] row : rows) {
             for (int k = 1; k < row.length; k++) {
                 unknown(Words.r(row[0], row[k], 0, 3, 1, 2));

@@ -32,7 +32,8 @@ final class FaceTest {
                 found.add(field.toString());
             }
             if (Modifier.isStatic(field.getModifiers())) {
-                CHECK.due("static field " + field.getName() + " is final", Modifier.isFinal(field.getModifiers()), true);
+                CHECK.due("static field " + field.getName() + " is final",
+                    Modifier.isFinal(field.getModifiers()), true);
             }
         }
         for (Constructor<?> constructor : UserCore.class.getDeclaredConstructors()) {

@@ -6,7 +6,6 @@ final class NewObjectTest {
         isNew("new", new UserCore());
         changeAll(new UserCore());
         isNew("new behind a changed one", new UserCore());
-        allRightsAtFirst();
         CHECK.end();
     }
 
@@ -35,15 +34,5 @@ final class NewObjectTest {
         }
         core.jump(7);
         core.run(1);
-    }
-
-    private static void allRightsAtFirst() {
-        for (int page = 0; page < 4; page++) {
-            int base = page * 4096;
-            UserCore core = Words.coreAt(base, Words.s(2, 1, 1, 64), Words.i(3, 2, 3, 1, 64), Words.CALL);
-            core.set(1, base);
-            CHECK.ran("rights of page " + page, core, 9, Check.is(2, 8, 0, base + 8));
-            CHECK.due("loaded in page " + page, core.register(3), base);
-        }
     }
 }
